@@ -21,33 +21,58 @@ public final class FaceTest {
         "int about(int) throws IllegalArgumentException",
     };
 
+    private static final Class<?> FACE = ContractHouse.class;
+
     public static void main(String[] args) {
-        Class<?> face = ContractHouse.class;
-        Checks.due("the class", Modifier.toString(face.getModifiers()), "public final");
-        methods(face);
-        fields(face);
-        Constructor<?>[] made = face.getDeclaredConstructors();
+        Checks.runAll(FaceTest.class);
+    }
+
+    static void faceClassIsPublicAndFinal() {
+        Checks.due("the class", Modifier.toString(FACE.getModifiers()), "public final");
+    }
+
+    static void faceHasTheOneConstructor() {
+        Constructor<?>[] made = FACE.getDeclaredConstructors();
         Checks.due("constructors", made.length, 1);
         Checks.due("its parameters", made[0].getParameterCount(), 0);
         Checks.due("it", Modifier.toString(made[0].getModifiers()), "public");
-        Checks.end();
     }
 
-    private static void methods(Class<?> face) {
+    static void faceHasTheMethodsOfTheDocumentAndNoOthers() {
         TreeSet<String> got = new TreeSet<>();
-        TreeSet<String> names = new TreeSet<>();
-        TreeSet<String> hidden = new TreeSet<>();
-        for (Method m : face.getDeclaredMethods()) {
-            if (Modifier.isPrivate(m.getModifiers())) {
-                hidden.add(m.getName());
-            } else {
+        for (Method m : FACE.getDeclaredMethods()) {
+            if (!Modifier.isPrivate(m.getModifiers())) {
                 got.add(told(m));
-                names.add(m.getName());
             }
         }
         Checks.due("methods", got.toString(), new TreeSet<>(Arrays.asList(METHODS)).toString());
-        hidden.retainAll(names);
-        Checks.due("private methods with a public one's name", hidden.toString(), "[]");
+    }
+
+    static void faceNamesAreNotThoseOfPrivateMethods() {
+        TreeSet<String> open = new TreeSet<>();
+        TreeSet<String> hidden = new TreeSet<>();
+        for (Method m : FACE.getDeclaredMethods()) {
+            (Modifier.isPrivate(m.getModifiers()) ? hidden : open).add(m.getName());
+        }
+        hidden.retainAll(open);
+        Checks.due("names of both", hidden.toString(), "[]");
+    }
+
+    static void faceHasTheConstantNoneAndNoOtherField() {
+        TreeSet<String> got = new TreeSet<>();
+        for (Field f : FACE.getDeclaredFields()) {
+            if (!Modifier.isPrivate(f.getModifiers())) {
+                got.add(Modifier.toString(f.getModifiers()) + " " + f.getType() + " " + f.getName());
+            }
+        }
+        Checks.due("fields", got.toString(), "[public static final int NONE]");
+    }
+
+    static void faceHidesNoStateThatIsStatic() {
+        for (Field f : FACE.getDeclaredFields()) {
+            boolean state = Modifier.isStatic(f.getModifiers()) && !Modifier.isFinal(f.getModifiers());
+            Checks.due(f.getName() + " is static state", state ? 1 : 0, 0);
+        }
     }
 
     private static String told(Method m) {
@@ -61,18 +86,5 @@ public final class FaceTest {
             text.append(' ').append(e.getSimpleName());
         }
         return text.toString();
-    }
-
-    private static void fields(Class<?> face) {
-        for (Field f : face.getDeclaredFields()) {
-            String modifiers = Modifier.toString(f.getModifiers());
-            if (f.getName().equals("NONE")) {
-                Checks.due("NONE", modifiers + " " + f.getType(), "public static final int");
-            } else {
-                Checks.due(f.getName() + " is private", modifiers.startsWith("private") ? 1 : 0, 1);
-                boolean constant = !modifiers.contains("static") || modifiers.contains("final");
-                Checks.due(f.getName() + " is no static state", constant ? 1 : 0, 1);
-            }
-        }
     }
 }

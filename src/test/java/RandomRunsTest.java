@@ -2,6 +2,10 @@
 public final class RandomRunsTest {
     private static final int N = ContractHouse.NONE;
 
+    // Behind its 512th call an object may answer anything.
+    private static final int MOST_CALLS = 512;
+    private static final int CALLS_TO_COMPARE = 62;
+
     private long seed;
     private ContractHouse house;
     private Model model;
@@ -13,6 +17,7 @@ public final class RandomRunsTest {
     }
 
     public static void main(String[] args) {
+        Checks.watch();
         for (int run = 0; run < 500; run++) {
             new RandomRunsTest(run).mixedRun();
         }
@@ -26,7 +31,7 @@ public final class RandomRunsTest {
     private void mixedRun() {
         begin();
         int length = 20 + below(200);
-        for (int n = 0; n < length; n++) {
+        for (int n = 0; n < length && calls < MOST_CALLS; n++) {
             anyCall();
             if (below(12) == 0) {
                 compareExpression();
@@ -98,7 +103,7 @@ public final class RandomRunsTest {
 
     /** Everything that can be asked of the expression, and the edges round it. */
     private void compareExpression() {
-        if (calls > 400) {
+        if (calls > MOST_CALLS - CALLS_TO_COMPARE) {
             return;
         }
         cost();
